@@ -454,7 +454,7 @@ public final class SystemLab {
 
     public int pack(int m) {
         Matrix x = matrixAt(m);
-        return x == null ? NONE : tape.write(x);
+        return x == null ? NONE : tape.writeMatrix(x);
     }
 
     public int octet(int i) {
@@ -655,7 +655,7 @@ public final class SystemLab {
             return scale(bits) - (53 - bitLength(mantissa(bits)));
         }
 
-        static boolean onLattice(long bits) {
+        static boolean isLatticeNumber(long bits) {
             long m = mantissa(bits);
             if (m == 0) {
                 return magnitude(bits) == 0;
@@ -926,7 +926,7 @@ public final class SystemLab {
         boolean onLattice() {
             for (int i = 0; i < rows; i++) {
                 for (int j = 0; j < columns; j++) {
-                    if (!Doubles.onLattice(at(i, j))) {
+                    if (!Doubles.isLatticeNumber(at(i, j))) {
                         return false;
                     }
                 }
@@ -1038,7 +1038,7 @@ public final class SystemLab {
 
         boolean onLattice() {
             for (int i = 0; i < n; i++) {
-                if (!Doubles.onLattice(bits[i])) {
+                if (!Doubles.isLatticeNumber(bits[i])) {
                     return false;
                 }
             }
@@ -1384,7 +1384,7 @@ public final class SystemLab {
         }
 
         /** This, settled: the nearest double, or UP of what it is without sign. */
-        long rounded(boolean up) {
+        long toDouble(boolean up) {
             int top = high;
             while (top >= 0 && digit[top] == 0) {
                 top--;
@@ -1439,7 +1439,7 @@ public final class SystemLab {
                 return -1;
             }
             exact(x, s, r, i);
-            long bits = work.rounded(false);
+            long bits = work.toDouble(false);
             return Doubles.finite(bits) ? Doubles.unsignedZero(bits) : -1;
         }
 
@@ -1448,7 +1448,7 @@ public final class SystemLab {
             most.clear();
             for (int i = 0; i < x.rows; i++) {
                 exact(x, s, r, i);
-                into[i] = Doubles.unsignedZero(work.rounded(false));
+                into[i] = Doubles.unsignedZero(work.toDouble(false));
                 if (work.exceeds(most)) {
                     most.copy(work);
                 }
@@ -1457,7 +1457,7 @@ public final class SystemLab {
 
         long greatestUp(Matrix x, long[] s, long[] r) {
             measure(x, s, r, numbers, best);
-            return best.rounded(true);
+            return best.toDouble(true);
         }
 
         /** Begins to refine: current is s. */
@@ -1517,7 +1517,7 @@ public final class SystemLab {
                     best.copy(row);
                 }
             }
-            return best.rounded(true);
+            return best.toDouble(true);
         }
 
         /** What x times w lacks at i, j to 1 at i, i and else 0 comes to work. */
@@ -1587,7 +1587,7 @@ public final class SystemLab {
         }
 
         /** Becomes m times 2 to shift, with a sign. */
-        void load(long m, int shift, int itsSign) {
+        void become(long m, int shift, int itsSign) {
             zero();
             if (m == 0 || shift < 0) {
                 return;
@@ -1621,11 +1621,11 @@ public final class SystemLab {
             }
         }
 
-        int bitLength() {
+        int countBits() {
             return length == 0 ? 0 : 32 * (length - 1) + Doubles.bitLength(limb[length - 1] & Doubles.LOW);
         }
 
-        int lowestBit() {
+        int trailingZeros() {
             for (int i = 0; i < length; i++) {
                 if (limb[i] != 0) {
                     return 32 * i + Doubles.lowestBit(limb[i] & Doubles.LOW);
@@ -1840,7 +1840,7 @@ public final class SystemLab {
         }
 
         /** Loads a matrix (and a right side) as whole multiples of 2 to unit. */
-        private void load(Matrix x, long[] r) {
+        private void prepare(Matrix x, long[] r) {
             rows = x.rows;
             columns = x.columns;
             all = r == null ? columns : columns + 1;
@@ -1874,9 +1874,9 @@ public final class SystemLab {
             if (m == 0) {
                 into.zero();
             } else if (shift >= 0) {
-                into.load(m, shift, bits < 0 ? -1 : 1);
+                into.become(m, shift, bits < 0 ? -1 : 1);
             } else {
-                into.load(m >>> Math.min(-shift, 63), 0, bits < 0 ? -1 : 1);
+                into.become(m >>> Math.min(-shift, 63), 0, bits < 0 ? -1 : 1);
             }
         }
 
@@ -1884,7 +1884,7 @@ public final class SystemLab {
         private void appendUnits() {
             for (int i = 0; i < rows; i++) {
                 for (int j = 0; j < rows; j++) {
-                    at(i, columns + j).load(i == j ? 1 : 0, 0, 1);
+                    at(i, columns + j).become(i == j ? 1 : 0, 0, 1);
                 }
             }
             all = columns + rows;
@@ -1894,7 +1894,7 @@ public final class SystemLab {
         private void eliminate(boolean whole) {
             rank = 0;
             turned = false;
-            divisor.load(1, 0, 1);
+            divisor.become(1, 0, 1);
             prepareDivisor();
             for (int c = 0; c < columns; c++) {
                 int i = rowWithPivot(c);
@@ -1937,7 +1937,7 @@ public final class SystemLab {
         }
 
         private void prepareDivisor() {
-            divisorShift = divisor.lowestBit();
+            divisorShift = divisor.trailingZeros();
             divisor.shiftDown(divisorShift);
             divisorInverse = divisor.inverseOfLowest();
         }
@@ -1962,14 +1962,14 @@ public final class SystemLab {
         }
 
         int rankOf(Matrix x) {
-            load(x, null);
+            prepare(x, null);
             eliminate(false);
             return rank;
         }
 
         /** 0 none, 1 many, or ONE_SOLUTION. */
         int solutions(Matrix x, long[] r) {
-            load(x, r);
+            prepare(x, r);
             eliminate(true);
             for (int i = rank; i < rows; i++) {
                 if (at(i, columns).sign != 0) {
@@ -1987,7 +1987,7 @@ public final class SystemLab {
 
         /** Writes null vector k; false if there is none such. */
         boolean writeNullVector(Matrix x, int k, long[] into) {
-            load(x, null);
+            prepare(x, null);
             eliminate(true);
             int column = freeColumn(k);
             if (column < 0) {
@@ -2031,8 +2031,8 @@ public final class SystemLab {
                 return 0;
             }
             boolean negative = left.sign != right.sign;
-            int n = left.bitLength();
-            int d = right.bitLength();
+            int n = left.countBits();
+            int d = right.countBits();
             left.shiftUp(d - n);
             right.shiftUp(n - d);
             long found = 0;
@@ -2049,7 +2049,7 @@ public final class SystemLab {
 
         /** The determinant, in units, comes to left. */
         private void determinantToLeft(Matrix x) {
-            load(x, null);
+            prepare(x, null);
             eliminate(false);
             left.zero();
             if (rank == rows) {
@@ -2060,7 +2060,7 @@ public final class SystemLab {
 
         long determinantOf(Matrix x) {
             determinantToLeft(x);
-            right.load(1, 0, 1);
+            right.become(1, 0, 1);
             return ratio(rows * unit, false);
         }
 
@@ -2072,7 +2072,7 @@ public final class SystemLab {
 
         /** The condition, UP, or -1 without an inverse. */
         long conditionOf(Matrix x) {
-            load(x, null);
+            prepare(x, null);
             appendUnits();
             greatestRowSum(0);
             norm.copy(left);
@@ -2243,7 +2243,7 @@ public final class SystemLab {
         }
 
         /** Packs a matrix; how many bytes. */
-        int write(Matrix m) {
+        int writeMatrix(Matrix m) {
             packedLength = 0;
             write(MARK);
             write(m.form);
