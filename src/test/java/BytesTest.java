@@ -315,6 +315,8 @@ public final class BytesTest {
     Due.is("row by row", unpacked("sparse", x, sparse(3, 0, 4, 1, 0, 3, 4)), 0);
     Due.is("its numbers", x.get(0, 3, 4), 0x4000000000000004L);
     Due.is("none", unpacked("sparse", x, sparse(0)), 1);
+    Due.is("some told, none there", unpacked("sparse", x, sparse(1)), -1);
+    Due.is("many told, none there", unpacked("sparse", x, sparse(200)), -1);
     Due.is("not row by row", unpacked("sparse", x, sparse(2, 1, 0, 0, 4)), -1);
     Due.is("not by columns in a row", unpacked("sparse", x, sparse(2, 1, 3, 1, 2)), -1);
     Due.is("twice the same place", unpacked("sparse", x, sparse(2, 1, 3, 1, 3)), -1);

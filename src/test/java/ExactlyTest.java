@@ -258,6 +258,9 @@ public final class ExactlyTest {
     Due.isNumber("the GAP is not finite", x.bound(big, four, s, r), -1);
     Due.isNumber("R is not finite", x.bound(one, one, s, r), -1);
     Due.isNumber("the bound is not finite", x.bound(one, one, s, zero), -1);
+    int low = Due.full(x, new double[][] {{0x1p-30}});
+    int high = Due.full(x, new double[][] {{0x1p30}});
+    Due.isNumber("R is not finite, N is small", x.bound(low, high, s, zero), -1);
     int half = Due.full(x, new double[][] {{0.5}});
     Due.isNumber("B / D is not finite", x.bound(half, one, s, zero), -1);
     int tenth = Due.full(x, new double[][] {{0.125}});
@@ -322,6 +325,11 @@ public final class ExactlyTest {
     }
     Due.is("the same numbers", x.same(made, star), 1);
     Due.is("and another matrix", made, 3);
+    x.reorder(zero);
+    x.reorder(x.transpose(star));
+    for (int k = 0; k < 5; k++) {
+      Due.is("its rows for columns: the order stays", x.place(k), k);
+    }
   }
 
   private static void promise38Place() {

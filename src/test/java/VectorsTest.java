@@ -14,6 +14,7 @@ public final class VectorsTest {
     promise24NoSolution();
     promise25Residual();
     promise25Rounded();
+    promise25Ties();
     promise26Greatest();
     promise27Refine();
     promise27Over();
@@ -211,6 +212,33 @@ public final class VectorsTest {
     Due.isNumber("the least of all", x.greatest(low, Due.row(x, MIN), zero), MIN);
   }
 
+  /** A tie, and a little above or below it, wherever the numbers stand. */
+  private static void promise25Ties() {
+    for (int e = -70; e <= 70; e++) {
+      SystemLab x = new SystemLab();
+      double base = Math.scalb(1.0, e);
+      int m = Due.full(x, new double[][] {{1, 1, 1}});
+      int s = x.vector(3);
+      int r = x.vector(1);
+      x.set(s, 0, Due.bits(-base));
+      x.set(s, 1, Due.bits(-Math.scalb(1.0, e - 53)));
+      Due.isNumber("a tie at " + e, x.residual(m, s, r, 0), base);
+      Due.isNumber("a tie UP at " + e, x.greatest(m, s, r), Math.nextUp(base));
+      for (int low = e - 54; low > e - 180; low -= 3) {
+        x.set(s, 2, Due.bits(-Math.scalb(1.0, low)));
+        Due.isNumber("a little above at " + e + ", " + low, x.residual(m, s, r, 0), Math.nextUp(base));
+        x.set(s, 2, Due.bits(Math.scalb(1.0, low)));
+        Due.isNumber("a little below at " + e + ", " + low, x.residual(m, s, r, 0), base);
+        x.set(s, 1, 0);
+        x.set(s, 2, Due.bits(-Math.scalb(1.0, low)));
+        Due.isNumber("a little alone UP at " + e + ", " + low, x.greatest(m, s, r), Math.nextUp(base));
+        x.set(s, 2, Due.bits(Math.scalb(1.0, low)));
+        Due.isNumber("a little less UP at " + e + ", " + low, x.greatest(m, s, r), base);
+        x.set(s, 1, Due.bits(-Math.scalb(1.0, e - 53)));
+      }
+    }
+  }
+
   private static void promise26Greatest() {
     SystemLab x = new SystemLab();
     int m = Due.full(x, new double[][] {{1, 0}, {0, 1}, {1, 1}});
@@ -278,6 +306,16 @@ public final class VectorsTest {
     int large = Due.row(x, MAX);
     Due.is("the rounded residual is not finite", x.refine(big, h, large, Due.row(x, 1), 5), 0);
     Due.vectorIs("s stays", x, large, MAX);
+    for (int k = 0; k < 2; k++) {
+      int beyond = Due.full(x, new double[][] {{1, 0}, {0, 1}});
+      x.put(beyond, k, k, Due.bits(0x1p1000));
+      int v = Due.row(x, 0, 0);
+      x.set(v, k, Due.bits(0x1p50));
+      int z = Due.row(x, 0, 0);
+      Due.is("residual " + k + " is not finite", x.residual(beyond, v, z, k), -1);
+      Due.is("it is over then", x.refine(beyond, x.factor(beyond, 0, false), v, z, 5), 0);
+      Due.vectorIs("s stays", x, v, k == 0 ? 0x1p50 : 0, k == 0 ? 0 : 0x1p50);
+    }
     int two = Due.full(x, new double[][] {{0x1p-1022}});
     int k = x.factor(two, 0, false);
     int up = Due.row(x, MAX);
