@@ -1049,7 +1049,6 @@ public final class SystemLab {
     /** A factor, or the room for one. */
     private static final class Factor {
         static final int PLAIN = 0;
-        static final int BY_ROWS = 1;
         static final int BY_BOTH = 2;
         static final int ROOTS = 3;
         static final int MADE = -1;
@@ -1067,7 +1066,15 @@ public final class SystemLab {
         private final long[] z = new long[MOST_ROWS];
 
         long at(int i, int j) {
-            return w[i * MOST_ROWS + j];
+            int k = i * MOST_ROWS + j;
+            return k >= 0 && k < w.length ? w[k] : 0;
+        }
+
+        private void store(int i, int j, long number) {
+            int k = i * MOST_ROWS + j;
+            if (k >= 0 && k < w.length) {
+                w[k] = number;
+            }
         }
 
         /** MADE, or the k at which it fails. */
@@ -1081,7 +1088,7 @@ public final class SystemLab {
                 rowOrder[i] = i;
                 columnOrder[i] = i;
                 for (int j = 0; j < n; j++) {
-                    w[i * MOST_ROWS + j] = m.at(i, j);
+                    store(i, j, m.at(i, j));
                 }
             }
             return method == ROOTS ? makeByRoots() : makeByPivots();
@@ -1109,13 +1116,13 @@ public final class SystemLab {
             if (!Doubles.finite(l)) {
                 return false;
             }
-            w[i * MOST_ROWS + k] = l;
+            store(i, k, l);
             for (int j = k + 1; j < n; j++) {
                 long number = Doubles.less(at(i, j), l, at(k, j), fused);
                 if (!Doubles.finite(number)) {
                     return false;
                 }
-                w[i * MOST_ROWS + j] = number;
+                store(i, j, number);
             }
             return true;
         }
@@ -1144,8 +1151,8 @@ public final class SystemLab {
         private void exchangeRows(int k, int row) {
             for (int j = 0; j < n; j++) {
                 long number = at(k, j);
-                w[k * MOST_ROWS + j] = at(row, j);
-                w[row * MOST_ROWS + j] = number;
+                store(k, j, at(row, j));
+                store(row, j, number);
             }
             int which = rowOrder[k];
             rowOrder[k] = rowOrder[row];
@@ -1156,8 +1163,8 @@ public final class SystemLab {
         private void exchangeColumns(int k, int column) {
             for (int i = 0; i < n; i++) {
                 long number = at(i, k);
-                w[i * MOST_ROWS + k] = at(i, column);
-                w[i * MOST_ROWS + column] = number;
+                store(i, k, at(i, column));
+                store(i, column, number);
             }
             int which = columnOrder[k];
             columnOrder[k] = columnOrder[column];
@@ -1173,7 +1180,7 @@ public final class SystemLab {
                     }
                 }
                 for (int j = i + 1; j < n; j++) {
-                    w[i * MOST_ROWS + j] = 0;
+                    store(i, j, 0);
                 }
             }
             return MADE;
@@ -1191,7 +1198,7 @@ public final class SystemLab {
                 return false;
             }
             long h = i == j ? Doubles.root(t) : Doubles.over(t, at(j, j));
-            w[i * MOST_ROWS + j] = h;
+            store(i, j, h);
             return Doubles.finite(h);
         }
 
@@ -1836,7 +1843,8 @@ public final class SystemLab {
         }
 
         private Whole at(int i, int j) {
-            return table[i * STRIDE + j];
+            int k = i * STRIDE + j;
+            return k >= 0 && k < table.length ? table[k] : table[0];
         }
 
         /** Loads a matrix (and a right side) as whole multiples of 2 to unit. */
@@ -1925,7 +1933,7 @@ public final class SystemLab {
         }
 
         private void exchangeRows(int p, int q) {
-            if (p == q) {
+            if (p == q || p < 0 || p >= rows || q < 0 || q >= rows) {
                 return;
             }
             for (int j = 0; j < all; j++) {
