@@ -535,10 +535,7 @@ public final class AgainstModelTest {
     }
     due(truth(lab.end(0)), truth(model.end(0)), "end", 0);
     for (int at = 0; at < row.length; at += 20) {
-      int[] five = new int[5];
-      for (int k = 0; k < 20; k++) {
-        five[k / 4] = five[k / 4] << 8 | (at + k < row.length ? row[at + k] : 99);
-      }
+      int[] five = Due.five(row, at);
       due(lab.feed(five[0], five[1], five[2], five[3], five[4]),
           model.feed(five[0], five[1], five[2], five[3], five[4]),
           "feed", five[0], five[1], five[2], five[3], five[4]);

@@ -58,15 +58,7 @@ public final class ByteEdgesTest {
 
   /** Puts these bytes alone on the tape, and unpacks them. */
   private static int unpacked(SystemLab x, int[] row) {
-    x.end(0);
-    for (int at = 0; at < row.length; at += 20) {
-      int[] five = new int[5];
-      for (int k = 0; k < 20; k++) {
-        five[k / 4] = five[k / 4] << 8 | (at + k < row.length ? row[at + k] : 0);
-      }
-      x.feed(five[0], five[1], five[2], five[3], five[4]);
-    }
-    x.end(row.length);
+    Due.feed(x, row);
     return x.unpack();
   }
 
@@ -367,10 +359,7 @@ public final class ByteEdgesTest {
     int[] row = checked(ahead(head(77, 0, 1, 3, 0, 0), -1.1, MAX, -MIN));
     Due.is("bytes", row.length, 32);
     for (int at = 0; at < 40; at += 20) {
-      int[] five = new int[5];
-      for (int k = 0; k < 20; k++) {
-        five[k / 4] = five[k / 4] << 8 | (at + k < row.length ? row[at + k] : 200);
-      }
+      int[] five = Due.five(row, at);
       Due.is("feed", x.feed(five[0], five[1], five[2], five[3], five[4]), at + 20);
     }
     x.end(32);
@@ -385,10 +374,7 @@ public final class ByteEdgesTest {
     x.pack(unpacked(x, row));
     x.take();
     x.end(7);
-    int[] five = new int[5];
-    for (int k = 0; k < 20; k++) {
-      five[k / 4] = five[k / 4] << 8 | (7 + k < row.length ? row[7 + k] : 0);
-    }
+    int[] five = Due.five(row, 7);
     Due.is("7 and 20", x.feed(five[0], five[1], five[2], five[3], five[4]), 27);
     x.end(row.length);
     Due.is("unpack", x.unpack(), 1);
@@ -575,6 +561,17 @@ public final class ByteEdgesTest {
     for (int what : new int[] {-1, 4, 5, LEAST, MOST}) {
       Due.is("count(" + what + ")", x.count(what), -1);
     }
+  }
+
+  private static void term_the512thCallIsAnsweredToo() {
+    Due.says("An object is used for at most 512 calls after it has been made");
+    SystemLab x = new SystemLab();
+    int m = Due.full(x, new double[][] {{4, 1}, {2, 3}});
+    for (int call = 6; call < 512; call += 2) {
+      Due.is("sum, call " + call, x.sum(m, m), 1);
+      Due.is("drop, call " + (call + 1), x.drop(1), true);
+    }
+    Due.isNumber("call 512", x.determinant(m), 10);
   }
 
   private static void term_theConstantNone() {

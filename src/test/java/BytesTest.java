@@ -40,22 +40,9 @@ public final class BytesTest {
     return row;
   }
 
-  /** Puts these bytes alone on the tape. */
-  private static void feed(SystemLab x, int[] row) {
-    x.end(0);
-    for (int at = 0; at < row.length; at += 20) {
-      int[] five = new int[5];
-      for (int k = 0; k < 20; k++) {
-        five[k / 4] = five[k / 4] << 8 | (at + k < row.length ? row[at + k] : 0);
-      }
-      x.feed(five[0], five[1], five[2], five[3], five[4]);
-    }
-    x.end(row.length);
-  }
-
   /** Unpacks these bytes; whatever comes of it, the tape is empty then. */
   private static int unpacked(String call, SystemLab x, int[] row) {
-    feed(x, row);
+    Due.feed(x, row);
     Due.is(call + ": on the tape", x.count(3), row.length);
     int made = x.unpack();
     Due.is(call + ": the tape is empty then", x.count(3), 0);

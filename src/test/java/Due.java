@@ -143,6 +143,25 @@ final class Due {
     }
   }
 
+  /** Puts these bytes alone on the tape. */
+  static void feed(SystemLab x, int[] row) {
+    x.end(0);
+    for (int at = 0; at < row.length; at += 20) {
+      int[] five = five(row, at);
+      x.feed(five[0], five[1], five[2], five[3], five[4]);
+    }
+    x.end(row.length);
+  }
+
+  /** Twenty bytes from one on as five numbers, the highest first; 0s where there are no more. */
+  static int[] five(int[] row, int at) {
+    int[] five = new int[5];
+    for (int k = 0; k < 20; k++) {
+      five[k / 4] = five[k / 4] << 8 | (at + k < row.length ? row[at + k] : 0);
+    }
+    return five;
+  }
+
   static void matrixIs(String call, SystemLab x, int m, double[][] want) {
     is(call + " rows", x.shape(m, 1), want.length);
     is(call + " columns", x.shape(m, 2), want[0].length);

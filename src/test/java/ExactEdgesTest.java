@@ -832,6 +832,22 @@ public final class ExactEdgesTest {
     Due.placesAre("of 3 again, though it is gone", x, 2, 1, 0);
   }
 
+  private static void promise38_ofTheLatestAlone() {
+    Due.says("in the latest reorder()");
+    SystemLab x = new SystemLab();
+    int star = graph(x, 6, new int[][] {{0, 1}, {0, 2}, {0, 3}, {0, 4}});
+    int chain = graph(x, 6, new int[][] {{0, 3}, {3, 5}, {5, 1}, {1, 4}, {4, 2}});
+    int three = graph(x, 3, new int[][] {{0, 2}, {2, 1}});
+    for (int round = 0; round < 3; round++) {
+      x.reorder(star);
+      Due.placesAre("a star about 0", x, 4, 3, 2, 0, 1, 5);
+      x.reorder(chain);
+      Due.placesAre("a chain", x, 2, 4, 1, 5, 3, 0);
+      x.reorder(three);
+      Due.placesAre("a chain of 3", x, 1, 2, 0);
+    }
+  }
+
   private static void promise38_thatWasNotRefused() {
     Due.says("that was not refused");
     SystemLab x = new SystemLab();

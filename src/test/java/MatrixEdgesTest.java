@@ -491,6 +491,8 @@ public final class MatrixEdgesTest {
     Due.is("columns", x.shape(t, 2), 1);
     Due.isNumber("the last", x.get(t, 7, 0), 1);
     Due.is("one alone", x.shape(t, 5), 1);
+    int two = Due.full(x, new double[][] {{1, 2, 3}, {4, 5, 6}});
+    Due.matrixIs("all of them", x, x.transpose(two), new double[][] {{1, 4}, {2, 5}, {3, 6}});
   }
 
   private static void promise9_noneWhenItIsNotThere() {

@@ -1,3 +1,6 @@
+import java.math.BigDecimal;
+import java.math.BigInteger;
+
 /** Terms I and II, where they name an end or an edge: numbers, the LATTICE, matrices and their FORMS. */
 public final class NumberTermsTest {
   private static final double MAX = Double.MAX_VALUE;
@@ -112,9 +115,83 @@ public final class NumberTermsTest {
     Due.isNumber("a product beyond all doubles", fused(2, MAX, -MAX), MAX);
     Due.isNumber("a product below all doubles", fused(MIN, MIN, 1), 1);
     Due.isNumber("above as near, by what is below all doubles", fused(MIN, MIN, 1.5 * 0x1p-1021), 1.5 * 0x1p-1021);
-    Due.isNumber("as near, and a little above", fused(1 + EPS, 0x1p-53 + 0x1p-105, 1), 1 + EPS);
-    Due.isNumber("as near, and a little below", fused(1 - EPS, 0x1p-53, 1 + EPS), 1 + EPS);
     Due.isNumber("as near", fused(0.5, 0x1p-52, 1), 1);
+  }
+
+  private static void termI_fusedAProductALittleBesideHalfAStep() {
+    Due.says("FUSED(a, b, c) is a * b + c, rounded once");
+    // (1 + 2^-25 + 2^-51) * (1 - 2^-25 + 2^-51) is 1 + 2^-102
+    double a = 1 + 0x1p-25 + 0x1p-51;
+    double b = 1 - 0x1p-25 + 0x1p-51;
+    for (int e = -900; e <= 900; e += 50) {
+      double one = Math.scalb(1.0, e);
+      Due.isNumber("a little above it, at " + e, fused(a, b * Math.scalb(1.0, e - 53), one), one + Math.ulp(one));
+      Due.isNumber("below 0, at " + e, fused(-a, b * Math.scalb(1.0, e - 53), -one), -one - Math.ulp(one));
+      Due.isNumber("a little more than it away, at " + e, fused(-a, b * Math.scalb(1.0, e - 54), one),
+          Math.nextDown(one));
+      double odd = one + Math.ulp(one);
+      Due.isNumber("a little less than it, at " + e,
+          fused(1 + EPS, (1 - EPS) * Math.scalb(1.0, e - 53), odd), odd);
+    }
+    for (int e = -1074; e <= -1024; e++) {
+      double one = Math.scalb(1.0, e) * 2;
+      Due.isNumber("below all normal numbers, at " + e, fused(a * 0x1p-537, b * 0x1p-538, one), one + MIN);
+    }
+  }
+
+  private static void termI_fusedAProductAsNearAndALittleMore() {
+    Due.says("FUSED(a, b, c) is a * b + c, rounded once");
+    double a = 0x1p26 + 1;
+    double b = 0x1p27 + 1;
+    double below = 0x1p53 + 0x1p27 + 0x1p26;
+    Due.isNumber("as near: the even one", fused(a, b, 0), below);
+    for (int e = 0; e >= -1074; e--) {
+      double c = Math.scalb(1.0, e);
+      Due.isNumber("and 2^" + e, fused(a, b, c), below + 2);
+      Due.isNumber("less 2^" + e, fused(a, b, -c), below);
+      Due.isNumber("below 0, less 2^" + e, fused(-a, b, -c), -below - 2);
+    }
+    double odd = 3 * (0x1p52 + 1);
+    Due.isNumber("as near: the even one is above", fused(3, 0x1p52 + 1, 0), odd + 1);
+    for (int e = -1; e >= -1074; e--) {
+      double c = Math.scalb(1.0, e);
+      Due.isNumber("odd, and 2^" + e, fused(3, 0x1p52 + 1, c), 0x1.8000000000002p53);
+      Due.isNumber("odd, less 2^" + e, fused(3, 0x1p52 + 1, -c), 0x1.8000000000001p53);
+    }
+  }
+
+  private static void termI_fusedWhatIsLeftOfADifferenceIsRounded() {
+    Due.says("FUSED(a, b, c) is a * b + c, rounded once");
+    double a = 0x1p53 - 1;
+    Due.isNumber("2^53 + 1", fused(a, a, -0x1p53 * (0x1p53 - 3)), 0x1p53);
+    Due.isNumber("2^53 + 3", fused(a, a - 2, -0x1p53 * (0x1p53 - 5)), 0x1p53 + 4);
+    Due.isNumber("1", fused(a, a, -0x1p54 * (0x1p52 - 1)), 1);
+    Due.isNumber("0", fused(a, 1, -a), 0);
+    double b = 0x1p26 + 1;
+    Due.isNumber("half of the least: the even one", fused(b * 0x1p-537, b * 0x1p-538, -(0x1p51 + 0x1p26) * MIN), 0);
+    double h = 0x1p31 + 1;
+    Due.isNumber("half of the least, of more bits", fused(h * 0x1p-537, h * 0x1p-538, -(0x1p61 + 0x1p31) * MIN), 0);
+    Due.isNumber("a half more than 1 of it", fused(3 * 0x1p-537, 0x1p-538, 0), 2 * MIN);
+    Due.isNumber("a half more than 2 of it", fused(b * 0x1p-537, b * 0x1p-538, -(0x1p51 + 0x1p26 - 2) * MIN), 2 * MIN);
+  }
+
+  private static void termI_fusedWhereCMakesItAsNear() {
+    Due.says("FUSED(a, b, c) is a * b + c, rounded once");
+    for (int k = 1; k < 60; k++) {
+      double a = 0x1p26 + k;
+      double b = 0x1p53 - 3 * k;
+      BigInteger exact = new BigDecimal(a).toBigInteger()
+          .multiply(new BigDecimal(b).toBigInteger());
+      int low = exact.bitLength() - 54;
+      BigInteger half = exact.shiftRight(low).setBit(0).shiftLeft(low);
+      double c = half.subtract(exact).doubleValue();
+      double even = half.testBit(low + 1) ? half.add(BigInteger.ONE.shiftLeft(low)).doubleValue()
+          : half.subtract(BigInteger.ONE.shiftLeft(low)).doubleValue();
+      Due.isNumber("as near by " + c, fused(a, b, c), even);
+      Due.isNumber("below 0", fused(-a, b, -c), -even);
+      Due.isNumber("a little above", fused(a, b, c + 1), half.add(BigInteger.ONE).doubleValue());
+      Due.isNumber("a little below", fused(a, b, c - 1), half.subtract(BigInteger.ONE).doubleValue());
+    }
   }
 
   /** The GREATEST of a residual, of a matrix of one row: r is 0. */

@@ -224,7 +224,7 @@ public final class VectorsTest {
       x.set(s, 1, Due.bits(-Math.scalb(1.0, e - 53)));
       Due.isNumber("a tie at " + e, x.residual(m, s, r, 0), base);
       Due.isNumber("a tie UP at " + e, x.greatest(m, s, r), Math.nextUp(base));
-      for (int low = e - 54; low > e - 180; low -= 3) {
+      for (int low = e - 54 - Math.floorMod(e, 3); low > e - 180; low -= 3) {
         x.set(s, 2, Due.bits(-Math.scalb(1.0, low)));
         Due.isNumber("a little above at " + e + ", " + low, x.residual(m, s, r, 0), Math.nextUp(base));
         x.set(s, 2, Due.bits(Math.scalb(1.0, low)));

@@ -45,12 +45,16 @@ public final class WordsTest {
     return text.replaceAll("```(text)?", " ").replaceAll("\\s+", " ").trim();
   }
 
-  /** The document's parts by the names that tests have: promise1 .. promise45, termI .. termVI, and term for the rest. */
+  /**
+   * The document's parts by the names that tests have: promise1 .. promise45, termI .. termVI, and
+   * term for what is ahead of the terms and behind them.
+   */
   private static Map<String, String> sections(String text) {
     Map<String, String> found = new LinkedHashMap<>();
     String terms = text.substring(text.indexOf("## Terms"), text.indexOf("## Promise 1:"));
     int end = terms.indexOf("A call that is refused");
-    found.put("term", plain(terms.substring(end)));
+    String before = text.substring(0, text.indexOf("## Terms"));
+    found.put("term", plain(before + terms.substring(end)));
     for (int k = 0; k < TERMS.length; k++) {
       int from = terms.indexOf("\n" + TERMS[k] + ". ");
       int to = k + 1 < TERMS.length ? terms.indexOf("\n" + TERMS[k + 1] + ". ") : end;
